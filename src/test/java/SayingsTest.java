@@ -227,6 +227,12 @@ public final class SayingsTest {
         check.due("habit of 3", 38, news.habit(3));
         check.due("habit of 4", -2200, news.habit(4));
         check.due("habit of another", 0, news.habit(0));
+        HandNews turned = new HandNews();
+        turned.sheet(0, 3, 2);
+        turned.sheet(0, 4, 1);
+        turned.say(0, 0, 105, 0, false, false);
+        turned.say(1, 0, 100, 0, false, false);
+        check.due("the first saying copies, too", 5, turned.habit(3));
         check.due("BAD", -100000, news.grew(8));
         check.due("BAD", -100000, news.grew(-1));
         check.due("BAD", -1000000, news.habit(8));

@@ -18,6 +18,7 @@ public final class TownsTest {
         ringsQuarrel();
         longChainsSettle();
         aheadHangsTogether();
+        laterCallsAreSeen();
         check.end();
     }
 
@@ -124,6 +125,37 @@ public final class TownsTest {
         check.due("the slower of them", 21, news.slow(0, 3));
         news.post(3, 4, 1, 1);
         check.due("further on", 22, news.slow(0, 4));
+        HandNews turned = new HandNews();
+        turned.post(0, 1, 1, 20);
+        turned.post(1, 3, 2, 3);
+        turned.post(0, 2, 2, 2);
+        turned.post(2, 3, 1, 1);
+        check.due("the slower one by the lower town", 23, turned.slow(0, 3));
+    }
+
+    private static void laterCallsAreSeen() {
+        HandNews news = new HandNews();
+        news.post(0, 1, 4, 4);
+        news.sheet(0, 0, 3);
+        check.due("asked once", 3, news.span(0, 0));
+        news.sheet(1, 0, 9);
+        check.due("a sheet that came since", 9, news.span(1, 0));
+        news.say(1, 0, 1, 0, false, false);
+        news.dated(1, -1);
+        check.due("a day taken back since", 0, news.span(1, 0));
+        news.happened(0, 0, 20);
+        check.due("a thing that happened since", 24, news.span(1, 0));
+        news.sheet(1, 0, -1);
+        news.behind(2, 1);
+        check.due("a pair told since", 24, news.span(2, 0));
+        news.say(2, 1, 1, 0, false, false);
+        news.say(1, 1, 1, 0, false, false);
+        check.due("of one said since", 2, news.from(1));
+        news.keep();
+        news.dated(1, 100);
+        check.due("dated since", 100, news.span(2, 0));
+        news.back();
+        check.due("back since", 24, news.span(2, 0));
     }
 
     private static void sheetsTakeAndRefuse() {

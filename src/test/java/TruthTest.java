@@ -128,9 +128,15 @@ public final class TruthTest {
         for (int[] call : bad) {
             check.due("BAD", HandNews.BAD, news.known(call[0], call[1], call[2]));
         }
+        check.due("lag from elsewhere to town 0", 60, news.known(3, 4, 1));
         news.post(0, 1, 1, 1);
         check.due("a post in place", 11, news.known(1, 1, 0));
         check.due("changes the lag", 1, news.known(1, 0, 1));
+        news.happened(4, 1, 10);
+        news.post(1, 5, 9, 9);
+        news.post(1, 4, 2, 2);
+        check.due("the nearest of those that are later", 2, news.known(4, 1, 1));
+        check.due("and not the farthest", 7, news.known(4, 4, 1));
     }
 
     private static void worthTellsWhatItWas() {
