@@ -4,6 +4,12 @@ import java.nio.charset.StandardCharsets;
 final class Check {
     private int asDue = 0;
     private int wrong = 0;
+    private String sentence = "";
+
+    /** The sentence of the document that the answers from here on are due by. */
+    void sentence(String words) {
+        sentence = "[" + words + "] ";
+    }
 
     void due(String call, long want, long got) {
         if (want == got) {
@@ -11,7 +17,7 @@ final class Check {
             return;
         }
         wrong++;
-        System.out.println(call + " answered " + got + ", due is " + want);
+        System.out.println(sentence + call + " answered " + got + ", due is " + want);
     }
 
     void holds(String what, boolean so) {
