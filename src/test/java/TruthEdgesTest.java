@@ -29,6 +29,7 @@ public final class TruthEdgesTest {
         backToEmptyAndFull();
         restIsNotKept();
         countsFromNoneToFull();
+        theLastCallOfAll();
         check.end();
     }
 
@@ -515,5 +516,20 @@ public final class TruthEdgesTest {
         check.due("one truth told twice", 1, posts.count(4));
         posts.truth(0, -1);
         check.due("and taken back", 0, posts.count(4));
+    }
+
+    private static void theLastCallOfAll() {
+        check.sentence("An object is used for at most 512 calls after it has been made");
+        HandNews news = new HandNews();
+        for (int sheet = 0; sheet < 12; sheet++) {
+            news.sheet(0, 0, sheet);
+        }
+        for (int i = 0; i < 30; i++) {
+            news.say(i % 12, 0, 1, 0, false, false);
+        }
+        for (int calls = 42; calls < 511; calls++) {
+            check.due("own again and again", calls == 42 ? 12 : calls - 1 & 15, news.own(calls & 15));
+        }
+        check.due("the 512th call: all but the two others of sheet 0", 28, news.voice(29, 1));
     }
 }
